@@ -19,6 +19,9 @@ public final class LetterForms {
     private static final int MOST_VALUE_DEGREE = 40;
     private static final int MOST_DEEP = 6;
     private static final int MOST_THINGS = 40;
+    // n letters and numbers have n - 1 other things between them, and 6 times - ahead of each.
+    private static final int MOST_LEAVES = MOST_THINGS / 2;
+    private static final int MOST_STEPS = MOST_LEAVES * (2 + MOST_DEEP);
     private static final int MOST_OVERLAP = 8;
     private static final int MOST_NUMBER = 999;
     private static final int MOST_RANK = 12;
@@ -547,7 +550,7 @@ public final class LetterForms {
         private final int[] numbers = new int[MOST_VALUE_DEGREE + 1];
 
         void begin(int newDegree) {
-            degree = Math.max(0, Math.min(newDegree, MOST_VALUE_DEGREE));
+            degree = newDegree < 0 ? 0 : newDegree > MOST_VALUE_DEGREE ? MOST_VALUE_DEGREE : newDegree;
             Arrays.fill(numbers, 0);
         }
 
@@ -639,9 +642,8 @@ public final class LetterForms {
         static final int OVERLAP = 4;
         static final int LESS = 5;
 
-        // Each step takes a byte of the text at least.
-        private final int[] kinds = new int[MOST_BYTES];
-        private final int[] sizes = new int[MOST_BYTES];
+        private final int[] kinds = new int[MOST_STEPS];
+        private final int[] sizes = new int[MOST_STEPS];
         int length;
 
         void put(int kind, int size) {
@@ -1231,9 +1233,8 @@ public final class LetterForms {
     // Finds what signs come to.
     private static final class Calculator {
         private final Algebra algebra;
-        // Each form on the stack comes of a thing of its own.
-        private final Form[] stack = new Form[MOST_THINGS];
-        private final int[] totals = new int[MOST_THINGS];
+        private final Form[] stack = new Form[MOST_LEAVES];
+        private final int[] totals = new int[MOST_LEAVES];
         private final Form number = new Form();
         private final Form result = new Form();
         private int top;
