@@ -5,6 +5,7 @@ public final class SearchTest {
     public static void main(String[] args) {
         told();
         noughts();
+        manyRoots();
         kinds();
         refused();
         against(11, 4, 31);
@@ -73,6 +74,32 @@ public final class SearchTest {
         y.field(19);
         Check.form(y, 1);
         Check.due("33: of 19", 123120, () -> y.keep(0));
+    }
+
+    /** Forms that are the same number at very many points. */
+    private static void manyRoots() {
+        LetterForms x = new LetterForms();
+        x.field(17);
+        Check.form(x, 1, 0, 0, 0, 0, 0, 0, 0, 0);
+        Check.due("33: 8 numbers to the 8 are 1", 8 * 17 * 16, () -> x.keep(0));
+        Check.due("23: 2 numbers not 0, by 18 points", 36, () -> x.orbit(0));
+        LetterForms y = new LetterForms();
+        y.field(19);
+        int[] f = {0, 1};
+        int[] g = {0, 1};
+        for (int n = 0; n < 7; n++) {
+            f = Plain.times(f, new int[] {1, 19 - n}, 19);
+            g = Plain.times(g, new int[] {1, n == 0 ? 0 : 6 + n}, 19);
+        }
+        Check.form(y, f);
+        Check.form(y, g);
+        int[] firsts = {-1, -1};
+        int[] many = {0, 0};
+        search(f, f, 19, firsts, many, 0);
+        search(f, g, 19, firsts, many, 1);
+        Check.due("33: eight roots", many[0], () -> y.keep(0));
+        Check.due("32: eight roots", firsts[0], () -> y.same(0, 0));
+        Check.due("32: eight roots each", firsts[1], () -> y.same(0, 1));
     }
 
     private static void kinds() {

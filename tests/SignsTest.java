@@ -6,6 +6,7 @@ public final class SignsTest {
         right();
         wrong();
         limits();
+        cut();
         state();
         drawn();
         Check.end("SignsTest");
@@ -92,6 +93,18 @@ public final class SignsTest {
         read("f\tf", 1);
         read("\tf", 0);
         read("f_", 1);
+        read("fa", 0);
+        read("fz", 0);
+        read("fA", 0);
+        read("fZ", 0);
+        read("f`", 1);
+        read("f{", 1);
+        read("f@", 1);
+        read("f[f,f]1", 1);
+        read("f/", 1);
+        read("f:", 1);
+        read("/", 0);
+        read(":", 0);
         read("f\u00e9", 1);
         read("\u00ff", 0);
         read("f*(f+(f*f)", 10);
@@ -133,6 +146,28 @@ public final class SignsTest {
         read(times("([f,f]8)*", 10) + "f*f", 90);
         read(times(" ", 399) + "f", -1);
         read(times(" ", 400), 400);
+    }
+
+    /** What stood on the tape behind its end is no part of the text. */
+    private static void cut() {
+        String[] texts = {"f", "7", "12", "[f,f]2", "f*2", "f ", "12 ", "f+", "[f,f]", "[f,f] ", "-", "(f"};
+        for (String text : texts) {
+            for (String behind : new String[] {"f", "z", "9", "99", " ", ")", "2", "+f", "!"}) {
+                LetterForms x = new LetterForms();
+                Check.tape(x, Check.bytes(text + behind.repeat(5)));
+                x.end(text.length());
+                int due = Text.of(text).fault;
+                Check.due("7: '" + text + "' cut", due < 0 ? "0" : "throws.IllegalArgumentException", x::signs);
+                Check.due("8: '" + text + "' cut", due, x::fault);
+                if (due < 0) {
+                    Check.form(x, 1, 1, 1, 1);
+                    LetterForms y = new LetterForms();
+                    Check.signs(y, text);
+                    Check.form(y, 1, 1, 1, 1);
+                    Check.due("15: '" + text + "' cut", Check.value(y, 0, 0), () -> Check.value(x, 0, 0));
+                }
+            }
+        }
     }
 
     private static void state() {

@@ -8,6 +8,7 @@ public final class ValueTest {
         counts();
         spans();
         drawnSpans();
+        powersOfOne();
         Check.end("ValueTest");
     }
 
@@ -76,6 +77,9 @@ public final class ValueTest {
     private static void tooGreat() {
         int[] eight = {1, 0, 0, 0, 0, 0, 0, 0, 0};
         value("1" + " 0".repeat(40), "f*f*f*f*f", eight);
+        value("0 ".repeat(40) + "1", "f*f*f*f*f", 0, 0, 0, 0, 0, 0, 0, 0, 1);
+        // twice (9x and y) to the 5, times y to the 35
+        value("0 ".repeat(35) + "2 6 5 3 2 2", "f*f*f*f*(f+f)", 0, 0, 0, 0, 0, 0, 0, 9, 1);
         value("none", "f*f*f*f*f*f", eight);
         value("1" + " 0".repeat(40), "f*f*(f*f*f)*1", eight);
         value("none", "[f*f*f*f*f*f,f*f]8", eight);
@@ -108,6 +112,15 @@ public final class ValueTest {
             Check.signs(x, text);
         }
         int[] four = {1, 1, 1, 0, 1, 0, 1, 1};
+        LetterForms great = new LetterForms();
+        Check.form(great, 1, 2, 3, 4, 5, 6, 7, 8, 9);
+        great.table(2, 1, 1, 3);
+        Check.signs(great, "f*f*f*f*f");
+        Check.signs(great, "[f,f]8*0*(f*f*f*f*f)");
+        Check.signs(great, "f*f*f*f*f*f");
+        Check.due("17: degree 40", true, () -> great.stays(0, 0, 0));
+        Check.due("17: degree 40, weight 8", true, () -> great.stays(1, 0, 0));
+        Check.due("17: degree 48", false, () -> great.stays(2, 0, 0));
         int[] two = {1, 0, 0, 0, 1, 0, 1, 1};
         // of degree 0 all are numbers: an overlap by more than 0 has no value, but a sum has
         int[] none = {0, 0, 0, 1, 1, 0, 1, 1};
@@ -230,6 +243,39 @@ public final class ValueTest {
         LetterForms y = new LetterForms();
         Check.due("20: without signs", 0, () -> y.span(255, 4, 7));
         Check.due("21: without signs", 0, () -> y.basis(255, 4, 7));
+    }
+
+    /**
+     * The first eight powers of the one number that stays of a quadratic: as many are independent as it
+     * has numbers that are not 0 and not the same on the 12 forms. So each drawn number counts.
+     */
+    private static void powersOfOne() {
+        for (int p : new int[] {11, 13, 17, 19}) {
+            LetterForms x = new LetterForms();
+            x.field(p);
+            String text = "[f,f]2";
+            for (int n = 1; n <= 8; n++) {
+                Check.signs(x, text + "*[f,f]2".repeat(n - 1));
+            }
+            for (int seed = -150; seed < 150; seed++) {
+                int s = seed * 7919 * 104729;
+                java.util.Set<Integer> all = new java.util.TreeSet<>();
+                long now = s;
+                for (int n = 0; n < 12; n++) {
+                    long[] f = new long[3];
+                    for (int k = 0; k < 3; k++) {
+                        now = now * 1103515245L + 12345L;
+                        f[k] = (now & 0x7fffffff) / 65536 % p;
+                    }
+                    all.add(Plain.mod(f[1] * f[1] - 4 * f[0] * f[2], p));
+                }
+                all.remove(0);
+                int many = Math.min(8, all.size());
+                Check.due("20: " + p + " " + s, many, () -> x.span(255, 2, s));
+                Check.due("21: " + p + " " + s, (1 << many) - 1, () -> x.basis(255, 2, s));
+                Check.due("20: the last three, " + p + " " + s, Math.min(3, all.size()), () -> x.span(0b11100000, 2, s));
+            }
+        }
     }
 
     /** All seeds and fields: the rows of 12 forms of degree 1 tell many of the drawn numbers. */

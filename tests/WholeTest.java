@@ -67,10 +67,11 @@ public final class WholeTest {
                 // as thin as can be: the farthest way
                 c = Math.min(999, b * b / (4 * a) + 1);
             }
+            int last = c;
             if (b * b >= 4 * a * c) {
+                Check.argument("37: " + a + " " + b + " " + c, () -> X.reduced(a, b, last, 0));
                 continue;
             }
-            int last = c;
             long[] due = Whole.reduced(a, b, c);
             for (int what = 0; what <= 8; what++) {
                 int w = what;

@@ -549,6 +549,19 @@ public final class LetterForms {
         int degree;
         private final int[] numbers = new int[MOST_VALUE_DEGREE + 1];
 
+        static Form[] row(int many) {
+            Form[] row = new Form[many < 0 ? 0 : many];
+            for (int n = 0; n < row.length; n++) {
+                row[n] = new Form();
+            }
+            return row;
+        }
+
+        // Null outside of the row.
+        static Form pick(Form[] row, int n) {
+            return n < 0 || n >= row.length ? null : row[n];
+        }
+
         void begin(int newDegree) {
             degree = newDegree < 0 ? 0 : newDegree > MOST_VALUE_DEGREE ? MOST_VALUE_DEGREE : newDegree;
             Arrays.fill(numbers, 0);
@@ -571,16 +584,13 @@ public final class LetterForms {
             }
         }
 
+        // Of two forms of one degree.
         void swapWith(Form other) {
-            int last = Math.max(degree, other.degree);
-            for (int k = 0; k <= last; k++) {
+            for (int k = 0; k <= degree; k++) {
                 int mine = get(k);
                 set(k, other.get(k));
                 other.set(k, mine);
             }
-            int mine = degree;
-            degree = other.degree;
-            other.degree = mine;
         }
 
         boolean matches(Form other) {
@@ -605,17 +615,13 @@ public final class LetterForms {
             return first() == NONE;
         }
 
-        // Divides by y as often as it goes; nought comes out as a 0 of degree 0.
+        // Divides by y as often as it goes; nought stays.
         void dropY() {
             int often = first();
-            if (often == NONE) {
-                begin(0);
-                return;
-            }
-            for (int k = often; k <= degree; k++) {
+            for (int k = often; k > 0 && k <= degree; k++) {
                 set(k - often, get(k));
             }
-            degree -= often;
+            degree -= often > 0 ? often : 0;
         }
     }
 
@@ -681,18 +687,12 @@ public final class LetterForms {
         int undone;
         private final int[] which = new int[MOST_ACTS];
         // The numbers that the form of each act has when it is undone, or done: those it has not now.
-        private final Form[] others = new Form[MOST_ACTS];
-        private final Form[] forms = new Form[MOST_FORMS];
+        private final Form[] others = Form.row(MOST_ACTS);
+        private final Form[] forms = Form.row(MOST_FORMS);
         private final Table[] tables = new Table[MOST_TABLES];
         private final Signs[] signs = new Signs[MOST_SIGNS];
 
         State() {
-            for (int k = 0; k < others.length; k++) {
-                others[k] = new Form();
-            }
-            for (int n = 0; n < forms.length; n++) {
-                forms[n] = new Form();
-            }
             for (int n = 0; n < tables.length; n++) {
                 tables[n] = new Table();
             }
@@ -702,7 +702,7 @@ public final class LetterForms {
         }
 
         Form formAt(int n) {
-            return n < 0 || n >= formCount || n >= forms.length ? null : forms[n];
+            return n < formCount ? Form.pick(forms, n) : null;
         }
 
         Table tableAt(int n) {
@@ -740,10 +740,9 @@ public final class LetterForms {
 
         int noughts() {
             int many = 0;
-            for (int n = 0; n < formCount && n < forms.length; n++) {
-                if (forms[n].isNought()) {
-                    many++;
-                }
+            for (int n = 0; n < formCount; n++) {
+                Form f = formAt(n);
+                many += f != null && f.isNought() ? 1 : 0;
             }
             return many;
         }
@@ -753,20 +752,23 @@ public final class LetterForms {
             if (done >= MOST_ACTS) {
                 forgetFirst();
             }
-            if (done >= 0 && done < which.length && done < others.length) {
+            Form other = Form.pick(others, done);
+            if (other != null && done >= 0 && done < which.length) {
                 which[done] = form;
-                others[done].copyFrom(before);
+                other.copyFrom(before);
                 done++;
             }
         }
 
         private void forgetFirst() {
-            Form free = others[0];
-            for (int k = 0; k + 1 < which.length && k + 1 < others.length; k++) {
+            for (int k = 0; k + 1 < which.length; k++) {
                 which[k] = which[k + 1];
-                others[k] = others[k + 1];
+                Form to = Form.pick(others, k);
+                Form from = Form.pick(others, k + 1);
+                if (to != null && from != null) {
+                    to.copyFrom(from);
+                }
             }
-            others[others.length - 1] = free;
             done--;
         }
 
@@ -783,45 +785,62 @@ public final class LetterForms {
         }
 
         void stepBack(Form f) {
-            if (done > 0 && done <= others.length) {
+            Form other = Form.pick(others, done - 1);
+            if (other != null) {
                 done--;
                 undone++;
-                others[done].swapWith(f);
+                other.swapWith(f);
             }
         }
 
         void stepOn(Form f) {
-            if (undone > 0 && done >= 0 && done < others.length) {
-                others[done].swapWith(f);
+            Form other = Form.pick(others, done);
+            if (other != null && undone > 0) {
                 done++;
                 undone--;
+                other.swapWith(f);
+            }
+        }
+
+        void copyFrom(State from) {
+            p = from.p;
+            formCount = from.formCount;
+            tableCount = from.tableCount;
+            signsCount = from.signsCount;
+            copyActs(from);
+            for (int n = 0; n < formCount; n++) {
+                Form mine = formAt(n);
+                Form other = from.formAt(n);
+                if (mine != null && other != null) {
+                    mine.copyFrom(other);
+                }
+            }
+            for (int n = 0; n < tableCount; n++) {
+                Table mine = tableAt(n);
+                Table other = from.tableAt(n);
+                if (mine != null && other != null) {
+                    mine.set(other.a, other.b, other.c, other.d);
+                }
+            }
+            for (int n = 0; n < signsCount; n++) {
+                Signs mine = signsAt(n);
+                Signs other = from.signsAt(n);
+                if (mine != null && other != null) {
+                    mine.copyFrom(other);
+                }
             }
         }
 
         private void copyActs(State from) {
             done = from.done;
             undone = from.undone;
-            for (int k = 0; k < done + undone && k < which.length && k < others.length; k++) {
+            for (int k = 0; k < which.length && k < from.which.length; k++) {
                 which[k] = from.which[k];
-                others[k].copyFrom(from.others[k]);
-            }
-        }
-
-        void copyFrom(State from) {
-            p = from.p;
-            copyActs(from);
-            formCount = from.formCount;
-            tableCount = from.tableCount;
-            signsCount = from.signsCount;
-            for (int n = 0; n < formCount && n < forms.length; n++) {
-                forms[n].copyFrom(from.forms[n]);
-            }
-            for (int n = 0; n < tableCount && n < tables.length; n++) {
-                Table t = from.tables[n];
-                tables[n].set(t.a, t.b, t.c, t.d);
-            }
-            for (int n = 0; n < signsCount && n < signs.length; n++) {
-                signs[n].copyFrom(from.signs[n]);
+                Form mine = Form.pick(others, k);
+                Form other = Form.pick(from.others, k);
+                if (mine != null && other != null) {
+                    mine.copyFrom(other);
+                }
             }
         }
     }
@@ -1233,7 +1252,7 @@ public final class LetterForms {
     // Finds what signs come to.
     private static final class Calculator {
         private final Algebra algebra;
-        private final Form[] stack = new Form[MOST_LEAVES];
+        private final Form[] stack = Form.row(MOST_LEAVES);
         private final int[] totals = new int[MOST_LEAVES];
         private final Form number = new Form();
         private final Form result = new Form();
@@ -1241,9 +1260,6 @@ public final class LetterForms {
 
         Calculator(Algebra newAlgebra) {
             algebra = newAlgebra;
-            for (int n = 0; n < stack.length; n++) {
-                stack[n] = new Form();
-            }
         }
 
         // Null without a value. The next value takes the same room.
@@ -1267,33 +1283,35 @@ public final class LetterForms {
                     return null;
                 }
             }
-            return top == 1 ? stack[0] : null;
+            return top == 1 ? Form.pick(stack, 0) : null;
         }
 
         private boolean isLaid(Form f) {
-            if (top < 0 || top >= stack.length) {
+            Form next = Form.pick(stack, top);
+            if (next == null) {
                 return false;
             }
-            stack[top].copyFrom(f);
+            next.copyFrom(f);
             top++;
             return true;
         }
 
         private boolean isTurned() {
-            if (top < 1 || top > stack.length) {
+            Form last = Form.pick(stack, top - 1);
+            if (last == null) {
                 return false;
             }
-            algebra.scale(stack[top - 1], -1);
+            algebra.scale(last, -1);
             return true;
         }
 
         private boolean isJoined(int kind, int by) {
-            if (top < 2 || top > stack.length) {
+            Form first = Form.pick(stack, top - 2);
+            Form second = Form.pick(stack, top - 1);
+            if (first == null || second == null) {
                 return false;
             }
             top--;
-            Form first = stack[top - 1];
-            Form second = stack[top];
             if (kind == Signs.SUM) {
                 return algebra.addTo(first, second);
             }
@@ -1347,13 +1365,14 @@ public final class LetterForms {
     // Rows of values, and how many of them, or of all rows of signs, are independent.
     private static final class Rows {
         private static final int WIDTH = DRAWN * (MOST_VALUE_DEGREE + 1);
+        private static final int SUMS = MOST_RANK * MOST_DEGREE / 2 + 1;
 
         private final Algebra algebra;
         private final Calculator calculator;
-        private final Form[] drawn = new Form[DRAWN];
+        private final Form[] drawn = Form.row(DRAWN);
         private final int[][] held = new int[MOST_SIGNS][WIDTH];
         private final int[] firsts = new int[MOST_SIGNS];
-        private final long[] ways = new long[(MOST_RANK + 1) * (MOST_RANK * MOST_DEGREE + 1)];
+        private final long[] ways = new long[(MOST_RANK + 1) * SUMS];
         private int many;
         private int degree;
         private int place;
@@ -1361,9 +1380,6 @@ public final class LetterForms {
         Rows(Algebra newAlgebra, Calculator newCalculator) {
             algebra = newAlgebra;
             calculator = newCalculator;
-            for (int n = 0; n < drawn.length; n++) {
-                drawn[n] = new Form();
-            }
         }
 
         // Signs of the set whose row does not depend on those ahead of it, as bits; NONE.
@@ -1376,8 +1392,9 @@ public final class LetterForms {
                 Signs signs = (set >>> n & 1) == 1 ? state.signsAt(n) : null;
                 if (signs != null) {
                     place = 0;
-                    for (int k = 0; k < drawn.length; k++) {
-                        if (!isAppended(calculator.valueOf(signs, drawn[k]))) {
+                    for (int k = 0; k < DRAWN; k++) {
+                        Form f = Form.pick(drawn, k);
+                        if (f == null || !isAppended(calculator.valueOf(signs, f))) {
                             return NONE;
                         }
                     }
@@ -1389,11 +1406,14 @@ public final class LetterForms {
 
         private void draw(int formDegree, int seed) {
             int last = seed;
-            for (int n = 0; n < drawn.length; n++) {
-                drawn[n].begin(formDegree);
-                for (int k = 0; k <= formDegree; k++) {
-                    last = 1103515245 * last + 12345;
-                    drawn[n].set(k, algebra.of(last >>> 16 & 0x7fff));
+            for (int n = 0; n < DRAWN; n++) {
+                Form f = Form.pick(drawn, n);
+                if (f != null) {
+                    f.begin(formDegree);
+                    for (int k = 0; k <= formDegree; k++) {
+                        last = 1103515245 * last + 12345;
+                        f.set(k, algebra.of(last >>> 16 & 0x7fff));
+                    }
                 }
             }
         }
@@ -1445,28 +1465,31 @@ public final class LetterForms {
 
         // In how many ways a sum is one of r numbers 0 to d, their order not counted.
         long ways(int sum, int r, int d) {
-            int width = MOST_RANK * MOST_DEGREE + 1;
-            if (sum < 0 || sum >= width) {
+            if (sum < 0 || sum >= SUMS) {
                 return 0;
             }
             Arrays.fill(ways, 0);
             ways[0] = 1;
+            // With numbers 1 to part, n of them: one that has the greatest is one of n less 1, and it.
             for (int part = 1; part <= d; part++) {
                 for (int n = 1; n <= r; n++) {
                     for (int s = part; s <= sum; s++) {
-                        int to = n * width + s;
-                        int from = to - width - part;
-                        if (from >= 0 && to < ways.length) {
-                            ways[to] += ways[from];
-                        }
+                        addWays(n * SUMS + s, (n - 1) * SUMS + s - part);
                     }
                 }
             }
             long all = 0;
-            for (int n = 0; n <= r && n * width + sum < ways.length; n++) {
-                all += ways[n * width + sum];
+            for (int n = 0; n <= r; n++) {
+                int place = n * SUMS + sum;
+                all += place < ways.length ? ways[place] : 0;
             }
             return all;
+        }
+
+        private void addWays(int to, int from) {
+            if (from >= 0 && from < ways.length && to >= 0 && to < ways.length) {
+                ways[to] += ways[from];
+            }
         }
     }
 
