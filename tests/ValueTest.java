@@ -9,6 +9,7 @@ public final class ValueTest {
         spans();
         drawnSpans();
         powersOfOne();
+        longRows();
         Check.end("ValueTest");
     }
 
@@ -274,6 +275,33 @@ public final class ValueTest {
                 Check.due("20: " + p + " " + s, many, () -> x.span(255, 2, s));
                 Check.due("21: " + p + " " + s, (1 << many) - 1, () -> x.basis(255, 2, s));
                 Check.due("20: the last three, " + p + " " + s, Math.min(3, all.size()), () -> x.span(0b11100000, 2, s));
+            }
+        }
+    }
+
+    /** The same with the number of a form of degree 8, times its fifth power: the longest rows. */
+    private static void longRows() {
+        for (int p : new int[] {11, 13, 17, 19}) {
+            LetterForms x = new LetterForms();
+            x.field(p);
+            for (int n = 0; n < 8; n++) {
+                Check.signs(x, "[f,f]8*".repeat(n) + "f*f*f*f*f");
+            }
+            for (int seed = 1; seed <= 25; seed++) {
+                int s = seed * 1299709;
+                java.util.Set<Integer> all = new java.util.TreeSet<>();
+                int now = s;
+                for (int n = 0; n < 12; n++) {
+                    int[] f = new int[9];
+                    for (int k = 0; k < 9; k++) {
+                        now = now * 1103515245 + 12345;
+                        f[k] = (now >> 16 & 0x7fff) % p;
+                    }
+                    all.add(Plain.overlap(f, f, 8, p)[0]);
+                }
+                int many = Math.min(8, all.size());
+                Check.due("20: long, " + p + " " + s, many, () -> x.span(255, 8, s));
+                Check.due("21: long, " + p + " " + s, (1 << many) - 1, () -> x.basis(255, 8, s));
             }
         }
     }
