@@ -124,6 +124,36 @@ public final class SignsTest {
         read("[-[-[-f,f]1,f]1,(-(-((f", 21);
         read("(((((f)))))+((((((f))))))+" + SIX + "f*" + SIX + "f", -1);
         read("(((((f)))))+(((((((f)))))))", 18);
+        // at the sixth what is missing is missing still
+        read(SIX, 6);
+        read(SIX + " ", 7);
+        read(SIX + ")", 6);
+        read("(((((()", 6);
+        read("(((((())))))", 6);
+        read("((((((", 6);
+        read("((((((+f))))))", 6);
+        read("((((((*f))))))", 6);
+        read("((((((f", 7);
+        read("((((((f+", 8);
+        read("((((((f)))))", 12);
+        read("((((((f)))))))", 13);
+        read("[[[[[[,f]1", 6);
+        read("[[[[[[f]1", 7);
+        read("[[[[[[f,]1", 8);
+        read("[[[[[[f,f]", 10);
+        read("[[[[[[f,f]9", 10);
+        read("[[[[[[f,f]1,f]1,f]1,f]1,f]1,f]", 30);
+        read("(-[(-[g", 6);
+        read("(-[(-[ff", 6);
+        read("(-[(-[1000", 6);
+        // - ends where its part ends: there is room for six again
+        read("-f*" + SIX + "f", -1);
+        read("(-f*-----f)", -1);
+        read("(-f*------f)", 9);
+        read("-(f)+" + SIX + "f", -1);
+        read("-(-f*-(-(f)))", -1);
+        read("-(-f*-(-(-f)))", 9);
+        fortyOfEach();
         String twenty = times("f+", 19) + "f";
         read(twenty, -1);
         read(twenty + "*f", 40);
@@ -146,6 +176,35 @@ public final class SignsTest {
         read(times("([f,f]8)*", 10) + "f*f", 90);
         read(times(" ", 399) + "f", -1);
         read(times(" ", 400), 400);
+    }
+
+    /** Which thing is the 41st: f, a NUMBER, [, * or +; ( and ) and - and the NUMBER of an OVERLAP are none. */
+    private static void fortyOfEach() {
+        // 19 of f and 18 of +: what comes first is the 38th
+        String most = times("f+", 18) + "f";
+        read(most + "+f", -1);
+        read(most + "+[", 39);
+        read(most + "+(f)", -1);
+        read(most + "+-(f)", -1);
+        read(most + "+7", -1);
+        read(most + "+7+", 40);
+        read(most + "+999*", 42);
+        read(most + "+(f*f)", 41);
+        read(most + "+((", 40);
+        read(most + "+(7", 40);
+        // 18 of f and 17 of +: what comes first is the 36th
+        String less = times("f+", 17) + "f";
+        read(less + "+[f,f]8", -1);
+        read(less + "+[f,f]8 ", -1);
+        read(less + "+[f,f]8+", 43);
+        read(less + "+[f,f]8+f", 43);
+        read(less + "+[f,[", 40);
+        read(less + "+[[f,f]1,f]1", 44);
+        read(less + "+[[1", 39);
+        read(less + "*[7,7]8*", 43);
+        read(times("[", 6) + "f" + times(",f]8", 6) + times("*f", 13), -1);
+        read(times("[", 6) + "f" + times(",f]8", 6) + times("*f", 13) + "*", 58);
+        read(times("[", 6) + "f" + times(",f]8", 6) + times("*f", 13) + "*f", 58);
     }
 
     /** What stood on the tape behind its end is no part of the text. */

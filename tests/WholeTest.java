@@ -1,6 +1,6 @@
 /** Promises 37 to 40: whole forms reduced and counted, real roots. */
 public final class WholeTest {
-    private static final LetterForms X = new LetterForms();
+    private static final Fresh X = new Fresh();
 
     public static void main(String[] args) {
         reduced();
@@ -38,22 +38,22 @@ public final class WholeTest {
         due(1, 998, 249002, "throws.IllegalArgumentException");
         due(1, 60, 901, "1 0 1 1 1 -30 0 1 4");
         due(10, 34, 29, "1 0 1 3 -2 5 1 -3 4");
-        Check.argument("37: DISC 0", () -> X.reduced(1, 2, 1, 0));
-        Check.argument("37: DISC above 0", () -> X.reduced(1, 3, 1, 0));
-        Check.argument("37: a 0", () -> X.reduced(0, 0, 1, 0));
-        Check.argument("37: a below 0", () -> X.reduced(-1, 0, -1, 0));
-        Check.argument("37: c below 0", () -> X.reduced(1, 0, -1, 0));
-        Check.argument("37: a none", () -> X.reduced(1000, 0, 1, 0));
-        Check.argument("37: b none", () -> X.reduced(999, 1000, 999, 0));
-        Check.argument("37: b none below", () -> X.reduced(999, -1000, 999, 0));
-        Check.argument("37: c none", () -> X.reduced(1, 0, 1000, 0));
-        Check.argument("37: far off", () -> X.reduced(1, Integer.MIN_VALUE, 1, 0));
-        Check.argument("37: far off", () -> X.reduced(Integer.MAX_VALUE, 0, Integer.MAX_VALUE, 0));
-        Check.argument("37: the first exception", () -> X.reduced(1, 2, 1, 9));
-        Check.noElement("37: 9", () -> X.reduced(1, 1, 1, 9));
-        Check.noElement("37: - 1", () -> X.reduced(1, 1, 1, -1));
-        Check.due("37: 999", 999L, () -> X.reduced(999, 0, 999, 2));
-        Check.due("37: nothing is told by it", "11 0 0 0 0 0 0 ", () -> Check.all(X));
+        Check.argument("37: DISC 0", () -> X.next().reduced(1, 2, 1, 0));
+        Check.argument("37: DISC above 0", () -> X.next().reduced(1, 3, 1, 0));
+        Check.argument("37: a 0", () -> X.next().reduced(0, 0, 1, 0));
+        Check.argument("37: a below 0", () -> X.next().reduced(-1, 0, -1, 0));
+        Check.argument("37: c below 0", () -> X.next().reduced(1, 0, -1, 0));
+        Check.argument("37: a none", () -> X.next().reduced(1000, 0, 1, 0));
+        Check.argument("37: b none", () -> X.next().reduced(999, 1000, 999, 0));
+        Check.argument("37: b none below", () -> X.next().reduced(999, -1000, 999, 0));
+        Check.argument("37: c none", () -> X.next().reduced(1, 0, 1000, 0));
+        Check.argument("37: far off", () -> X.next().reduced(1, Integer.MIN_VALUE, 1, 0));
+        Check.argument("37: far off", () -> X.next().reduced(Integer.MAX_VALUE, 0, Integer.MAX_VALUE, 0));
+        Check.argument("37: the first exception", () -> X.next().reduced(1, 2, 1, 9));
+        Check.noElement("37: 9", () -> X.next().reduced(1, 1, 1, 9));
+        Check.noElement("37: - 1", () -> X.next().reduced(1, 1, 1, -1));
+        Check.due("37: 999", 999L, () -> X.next().reduced(999, 0, 999, 2));
+        Check.due("37: nothing is told by it", "11 0 0 0 0 0 0 ", () -> Check.all(X.next()));
     }
 
     private static void reducedDrawn() {
@@ -69,13 +69,13 @@ public final class WholeTest {
             }
             int last = c;
             if (b * b >= 4 * a * c) {
-                Check.argument("37: " + a + " " + b + " " + c, () -> X.reduced(a, b, last, 0));
+                Check.argument("37: " + a + " " + b + " " + c, () -> X.next().reduced(a, b, last, 0));
                 continue;
             }
             long[] due = Whole.reduced(a, b, c);
             for (int what = 0; what <= 8; what++) {
                 int w = what;
-                Check.due("37: " + a + " " + b + " " + c + " " + what, due[w], () -> X.reduced(a, b, last, w));
+                Check.due("37: " + a + " " + b + " " + c + " " + what, due[w], () -> X.next().reduced(a, b, last, w));
             }
         }
     }
@@ -83,44 +83,44 @@ public final class WholeTest {
     private static void classes() {
         // those with one class alone, all being without a common divisor
         for (int disc : new int[] {-3, -4, -7, -8, -11, -19, -43, -67, -163}) {
-            Check.due("38: " + disc, 1, () -> X.classes(disc, false));
-            Check.due("38: all " + disc, 1, () -> X.classes(disc, true));
+            Check.due("38: " + disc, 1, () -> X.next().classes(disc, false));
+            Check.due("38: all " + disc, 1, () -> X.next().classes(disc, true));
         }
-        Check.due("38: - 15", 2, () -> X.classes(-15, false));
-        Check.due("38: - 12", 1, () -> X.classes(-12, false));
-        Check.due("38: - 12, all", 2, () -> X.classes(-12, true));
-        Check.due("38: - 27", 1, () -> X.classes(-27, false));
-        Check.due("38: - 27, all", 2, () -> X.classes(-27, true));
-        Check.due("38: - 71", 7, () -> X.classes(-71, false));
-        Check.due("38: - 84", 4, () -> X.classes(-84, false));
+        Check.due("38: - 15", 2, () -> X.next().classes(-15, false));
+        Check.due("38: - 12", 1, () -> X.next().classes(-12, false));
+        Check.due("38: - 12, all", 2, () -> X.next().classes(-12, true));
+        Check.due("38: - 27", 1, () -> X.next().classes(-27, false));
+        Check.due("38: - 27, all", 2, () -> X.next().classes(-27, true));
+        Check.due("38: - 71", 7, () -> X.next().classes(-71, false));
+        Check.due("38: - 84", 4, () -> X.next().classes(-84, false));
         Model m = new Model();
         for (int d = 10; d >= -10010; d -= d > -200 || d < -9900 ? 1 : 37) {
             int disc = d;
-            Check.due("38: " + d, Check.answer(() -> m.classes(disc, false)), () -> X.classes(disc, false));
-            Check.due("38: all " + d, Check.answer(() -> m.classes(disc, true)), () -> X.classes(disc, true));
+            Check.due("38: " + d, Check.answer(() -> m.classes(disc, false)), () -> X.next().classes(disc, false));
+            Check.due("38: all " + d, Check.answer(() -> m.classes(disc, true)), () -> X.next().classes(disc, true));
             for (int k : new int[] {-1, 0, 1, 2, 7, 40, 999}) {
                 int at = k;
                 for (int what = -1; what <= 3; what++) {
                     int w = what;
                     Check.due("39: " + d + " " + k + " " + what, Check.answer(() -> m.reducedAt(disc, at, w)),
-                        () -> X.reducedAt(disc, at, w));
+                        () -> X.next().reducedAt(disc, at, w));
                 }
             }
         }
-        Check.due("39: behind", -9999, () -> X.reducedAt(-4, 1, 0));
-        Check.due("39: far behind", -9999, () -> X.reducedAt(-4, Integer.MAX_VALUE, 2));
-        Check.due("39: the second of - 12 has a divisor", -9999, () -> X.reducedAt(-12, 1, 1));
-        Check.due("39: b below 0 first", "2 -1 2 1", () -> X.reducedAt(-23, 1, 0) + " " + X.reducedAt(-23, 1, 1) + " "
-            + X.reducedAt(-23, 2, 0) + " " + X.reducedAt(-23, 2, 1));
-        Check.noElement("39: behind, and another what", () -> X.reducedAt(-4, 5, 3));
-        Check.argument("39: the first exception", () -> X.reducedAt(-5, 0, 3));
-        Check.argument("39: the first exception", () -> X.reducedAt(-4, -1, 3));
-        Check.argument("38: far off", () -> X.classes(Integer.MIN_VALUE, true));
-        Check.argument("38: far off", () -> X.classes(Integer.MAX_VALUE, true));
+        Check.due("39: behind", -9999, () -> X.next().reducedAt(-4, 1, 0));
+        Check.due("39: far behind", -9999, () -> X.next().reducedAt(-4, Integer.MAX_VALUE, 2));
+        Check.due("39: the second of - 12 has a divisor", -9999, () -> X.next().reducedAt(-12, 1, 1));
+        Check.due("39: b below 0 first", "2 -1 2 1", () -> X.next().reducedAt(-23, 1, 0) + " " + X.next().reducedAt(-23, 1, 1) + " "
+            + X.next().reducedAt(-23, 2, 0) + " " + X.next().reducedAt(-23, 2, 1));
+        Check.noElement("39: behind, and another what", () -> X.next().reducedAt(-4, 5, 3));
+        Check.argument("39: the first exception", () -> X.next().reducedAt(-5, 0, 3));
+        Check.argument("39: the first exception", () -> X.next().reducedAt(-4, -1, 3));
+        Check.argument("38: far off", () -> X.next().classes(Integer.MIN_VALUE, true));
+        Check.argument("38: far off", () -> X.next().classes(Integer.MAX_VALUE, true));
     }
 
     private static void real(int due, int a, int b, int c, int d, int e) {
-        Check.due("40: " + a + " " + b + " " + c + " " + d + " " + e, due, () -> X.real(a, b, c, d, e));
+        Check.due("40: " + a + " " + b + " " + c + " " + d + " " + e, due, () -> X.next().real(a, b, c, d, e));
     }
 
     private static void realTold() {
@@ -140,17 +140,17 @@ public final class WholeTest {
         real(0, 1, 2, 3, 2, 1);
         real(0, -1, 0, -2, 0, -1);
         real(2, 1, 2, 0, -3, -30);
-        Check.argument("40: neither quartic nor cubic", () -> X.real(0, 0, 1, 2, 3));
-        Check.argument("40: all 0", () -> X.real(0, 0, 0, 0, 0));
+        Check.argument("40: neither quartic nor cubic", () -> X.next().real(0, 0, 1, 2, 3));
+        Check.argument("40: all 0", () -> X.next().real(0, 0, 0, 0, 0));
         for (int n = 0; n < 5; n++) {
             for (int far : new int[] {31, -31, Integer.MIN_VALUE, Integer.MAX_VALUE}) {
                 int[] k = {1, 1, 1, 1, 1};
                 k[n] = far;
-                Check.argument("40: " + n + " is " + far, () -> X.real(k[0], k[1], k[2], k[3], k[4]));
+                Check.argument("40: " + n + " is " + far, () -> X.next().real(k[0], k[1], k[2], k[3], k[4]));
             }
             int[] k = {1, 1, 1, 1, 1};
             k[n] = -30;
-            Check.due("40: - 30", Whole.real(k), () -> X.real(k[0], k[1], k[2], k[3], k[4]));
+            Check.due("40: - 30", Whole.real(k), () -> X.next().real(k[0], k[1], k[2], k[3], k[4]));
         }
     }
 
@@ -193,6 +193,6 @@ public final class WholeTest {
             return;
         }
         int[] numbers = k[0] == 0 ? new int[] {k[1], k[2], k[3], k[4]} : k;
-        Check.due("40: " + java.util.Arrays.toString(k), Whole.real(numbers), () -> X.real(k[0], k[1], k[2], k[3], k[4]));
+        Check.due("40: " + java.util.Arrays.toString(k), Whole.real(numbers), () -> X.next().real(k[0], k[1], k[2], k[3], k[4]));
     }
 }
