@@ -276,11 +276,15 @@ public final class BoundsFormTest {
         Check.due("18: alike", -1, () -> x.agree(0, 4, 0));
         Check.due("18: alike of degree 8", -1, () -> x.agree(0, 4, 8));
         Check.due("18: without a value, the same with itself", -1, () -> x.agree(2, 2, 0));
-        // the value that the other has was asked for just ahead
-        Check.due("18: f is f", -1, () -> x.agree(0, 0, 0));
-        Check.due("18: none and some", 0, () -> x.agree(2, 0, 0));
-        Check.due("18: f is f", -1, () -> x.agree(0, 0, 0));
-        Check.due("18: some and none", 0, () -> x.agree(0, 2, 0));
+        LetterForms z = new LetterForms();
+        Check.form(z, 3);
+        Check.signs(z, "f");
+        Check.signs(z, "[f,f]1");
+        // the value that the other has is what was asked for just ahead
+        Check.due("18: f is f", -1, () -> z.agree(0, 0, 0));
+        Check.due("18: none and some", 0, () -> z.agree(1, 0, 0));
+        Check.due("18: f is f", -1, () -> z.agree(0, 0, 0));
+        Check.due("18: some and none", 0, () -> z.agree(0, 1, 0));
         LetterForms y = new LetterForms();
         for (String text : texts) {
             Check.signs(y, text);

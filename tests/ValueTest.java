@@ -306,6 +306,19 @@ public final class ValueTest {
                 Check.due("21: long, " + p + " " + s, (1 << many) - 1, () -> x.basis(255, 8, s));
             }
         }
+        lastNumber(11, 631000778, 7);
+        lastNumber(13, 1615175269, 8);
+    }
+
+    /** Seeds by which the 12th form is y to the 8 alone: one more is independent by the last of all 492 numbers. */
+    private static void lastNumber(int p, int seed, int due) {
+        LetterForms x = new LetterForms();
+        x.field(p);
+        for (int n = 0; n < 8; n++) {
+            Check.signs(x, "[f,f]8*".repeat(n) + "f*f*f*f*f");
+        }
+        Check.due("20: the last number, " + p, due, () -> x.span(255, 8, seed));
+        Check.due("21: the last number, " + p, (1 << due) - 1, () -> x.basis(255, 8, seed));
     }
 
     /** All seeds and fields: the rows of 12 forms of degree 1 tell many of the drawn numbers. */
