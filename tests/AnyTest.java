@@ -27,14 +27,14 @@ public final class AnyTest {
         }
         all.sort((a, b) -> a.getName().compareTo(b.getName()));
         Check.due("all that can be called", 42, all::size);
-        for (int seed = 1; seed <= 400; seed++) {
+        for (int seed = 1; seed <= 700; seed++) {
             new AnyTest(seed).run(all);
         }
         Check.end("AnyTest");
     }
 
     private void run(List<Method> all) throws IllegalAccessException {
-        for (int calls = 0; calls < 500; calls += 4) {
+        for (int calls = 0; calls < 500; calls += 7) {
             if (drawn.once(2)) {
                 tell();
             }
