@@ -1337,7 +1337,7 @@ public final class LetterForms {
                     return NONE;
                 }
             }
-            return top == 1 ? totals[0] : NONE;
+            return top == 1 && totals.length > 0 ? totals[0] : NONE;
         }
 
         private boolean isTotalLaid(int total) {
@@ -1465,7 +1465,7 @@ public final class LetterForms {
 
         // In how many ways a sum is one of r numbers 0 to d, their order not counted.
         long ways(int sum, int r, int d) {
-            if (sum < 0 || sum >= SUMS) {
+            if (sum < 0 || sum >= SUMS || ways.length == 0) {
                 return 0;
             }
             Arrays.fill(ways, 0);
@@ -1713,10 +1713,10 @@ public final class LetterForms {
                     over = points[k] == algebra.p() ? over : algebra.of(over * (points[k] - mine));
                 }
             }
-            if (mine == algebra.p()) {
-                return length >= 1 && length <= row.length ? row[length - 1] : 0;
-            }
-            return algebra.of(row[0] * algebra.inverse(over));
+            // y to the degree has 0 in all places but the last.
+            int place = mine == algebra.p() ? length - 1 : 0;
+            int left = place < 0 || place >= row.length ? 0 : row[place];
+            return mine == algebra.p() ? left : algebra.of(left * algebra.inverse(over));
         }
     }
 
