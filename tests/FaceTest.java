@@ -65,6 +65,7 @@ public final class FaceTest {
         Check.due("private methods with a public one's name", "[]", FaceTest::twice);
         Check.due("classes inside", true, FaceTest::inside);
         Check.due("fields of a class", true, FaceTest::isFew);
+        Check.due("what is static is final, and a number", "[]", FaceTest::loose);
         Check.end("FaceTest");
     }
 
@@ -127,6 +128,21 @@ public final class FaceTest {
             }
         }
         return many <= 12;
+    }
+
+    private static String loose() {
+        List<Class<?>> all = new ArrayList<>(Arrays.asList(LetterForms.class.getDeclaredClasses()));
+        all.add(LetterForms.class);
+        List<String> names = new ArrayList<>();
+        for (Class<?> c : all) {
+            for (Field f : c.getDeclaredFields()) {
+                boolean isConstant = Modifier.isFinal(f.getModifiers()) && f.getType() == int.class;
+                if (Modifier.isStatic(f.getModifiers()) && !isConstant) {
+                    names.add(f.getName());
+                }
+            }
+        }
+        return names.toString();
     }
 
     private static boolean isFew() {
